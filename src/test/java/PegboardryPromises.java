@@ -643,9 +643,10 @@ public final class PegboardryPromises {
         refused("hint(-1)", INDEX, () -> x.hint(-1));
         refused("hint(1)", INDEX, () -> x.hint(1));
         hintsInOtherOrder();
+        hintsByCages();
     }
 
-    /** Cell 3 is settled from cells 0 to 2, cell 2 only then: the first is neither the lowest nor the last one. */
+    /** Which of the five open cells is settled first is told by the steps: each comes to one candidate by its third. */
     private static void hintsInOtherOrder() {
         Pegboardry x = withSquare(15);
         x.give(0, 0, 0);
@@ -656,6 +657,19 @@ public final class PegboardryPromises {
         due("hint by the steps", x.hint(0), firstSettled(x));
         x.mark(0, firstSettled(x) / 10, firstSettled(x) % 10);
         due("hint differs behind a mark", x.hint(0) != firstSettled(x), true);
+    }
+
+    /** No cell is given: the two cells with the sum 2 settle the first hint, and cell 7 goes with cell 0. */
+    private static void hintsByCages() {
+        Pegboardry x = caged(1 | 1 << 9, 2);
+        x.addCage(0, 1 << 2 | 1 << 12 | 1 << 14, 9);
+        x.addCage(0, 1 << 2 | 1 << 12 | 1 << 15, 8);
+        x.addCage(0, 1 | 1 << 1 | 1 << 9 | 1 << 10, 8);
+        x.addCage(0, 1 | 1 << 7, 3);
+        x.addCage(0, 1 | 1 << 4 | 1 << 12, 8);
+        due("hint by cages", x.hint(0), 1);
+        x.mark(0, 0, 1);
+        due("hint by cages, that one marked", x.hint(0), 72);
     }
 
     private static int firstSettled(Pegboardry x) {
